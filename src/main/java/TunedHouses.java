@@ -127,7 +127,7 @@ public final class TunedHouses {
             return tape.faultKind - LESS_FOR_FAULT;
         }
         past.keep(now.cells);
-        work.doAll(now);
+        work.doSteps(now, 0, work.steps, 0);
         stepsRefused = work.refused;
         return work.done;
     }
@@ -647,8 +647,8 @@ public final class TunedHouses {
         }
 
         boolean takes(char sign) {
-            if (!sees(sign)) {
-                return cannotStand();
+            if (peek() != sign) {
+                return fails(CANNOT_STAND, at);
             }
             at++;
             return true;
@@ -657,7 +657,7 @@ public final class TunedHouses {
         boolean takesNumber(int least, int most) {
             int first = peek();
             if (first < '0' || first > '9') {
-                return cannotStand();
+                return fails(CANNOT_STAND, at);
             }
             tokenAt = at;
             value = 0;
@@ -671,7 +671,7 @@ public final class TunedHouses {
         boolean takesWord() {
             int first = peek();
             if (first < 'a' || first > 'z') {
-                return cannotStand();
+                return fails(CANNOT_STAND, at);
             }
             tokenAt = at;
             while (at < end && bytes[at] >= 'a' && bytes[at] <= 'z') {
@@ -693,6 +693,7 @@ public final class TunedHouses {
             return true;
         }
 
+        /** Refuses whatever comes next. */
         boolean cannotStand() {
             peek();
             return fails(CANNOT_STAND, at);
@@ -897,6 +898,7 @@ public final class TunedHouses {
     private static final class Law {
         // Codes below INPUT are numbers as they stand, since a number is 999 at most.
         private static final int INPUT = 1000;
+        private static final int SIGN = INPUT + INPUTS;
         private static final int LEAST = 2000;
         private static final int MOST = 2001;
         // Six open brackets hold three waiting values each, and three more stand outside.
@@ -913,7 +915,7 @@ public final class TunedHouses {
         void clear() {
             codes[0] = INPUT + STRONG;
             codes[1] = INPUT + FELT;
-            codes[2] = '-' + INPUT + INPUTS;
+            codes[2] = SIGN + '-';
             length = 3;
         }
 
@@ -937,7 +939,7 @@ public final class TunedHouses {
                 if (!parseProduct(text, open)) {
                     return false;
                 }
-                add(sign + INPUT + INPUTS);
+                add(SIGN + sign);
             }
             return true;
         }
@@ -952,7 +954,7 @@ public final class TunedHouses {
                 if (!parseUnit(text, open)) {
                     return false;
                 }
-                add(sign + INPUT + INPUTS);
+                add(SIGN + sign);
             }
             return true;
         }
@@ -1039,14 +1041,10 @@ public final class TunedHouses {
         }
 
         int force(int[] inputs) {
-            return Math.max(0, Math.min(MOST_FORCE, value(inputs)));
-        }
-
-        private int value(int[] inputs) {
             int top = 0;
             for (int i = 0; i < length; i++) {
                 int code = codes[i];
-                if (code < INPUT + INPUTS) {
+                if (code < SIGN) {
                     if (top < STACK) {
                         stack[top] = code < INPUT ? code : inputs[code - INPUT];
                         top++;
@@ -1056,18 +1054,18 @@ public final class TunedHouses {
                     stack[top - 1] = joined(code, stack[top - 1], stack[top]);
                 }
             }
-            return stack[0];
+            return Math.max(0, Math.min(MOST_FORCE, stack[0]));
         }
 
         private static int joined(int code, int a, int b) {
             switch (code) {
-                case '+' + INPUT + INPUTS: return a + b;
-                case '-' + INPUT + INPUTS: return a - b;
-                case '*' + INPUT + INPUTS: return a * b;
-                case '/' + INPUT + INPUTS: return b == 0 ? 0 : a / b;
-                case '%' + INPUT + INPUTS: return b == 0 ? 0 : a % b;
-                case LEAST: return Math.min(a, b);
-                default: return Math.max(a, b);
+                case SIGN + '+': return a + b;
+                case SIGN + '-': return a - b;
+                case SIGN + '*': return a * b;
+                case SIGN + '/': return b == 0 ? 0 : a / b;
+                case SIGN + '%': return b == 0 ? 0 : a % b;
+                case LEAST: return a < b ? a : b;
+                default: return a > b ? a : b;
             }
         }
     }
@@ -1156,7 +1154,7 @@ public final class TunedHouses {
         private final int[] seconds = new int[MOST_STEPS];
         /** Where the step behind each one stands; an again's lies behind all it holds. */
         private final int[] behind = new int[MOST_STEPS];
-        private int steps;
+        int steps;
         private int begun;
         int done;
         int refused;
@@ -1167,6 +1165,9 @@ public final class TunedHouses {
 
         boolean parse(Tape text) {
             steps = 0;
+            begun = 0;
+            done = 0;
+            refused = 0;
             return parseSteps(text, 0);
         }
 
@@ -1238,14 +1239,8 @@ public final class TunedHouses {
             return true;
         }
 
-        void doAll(Scene scene) {
-            begun = 0;
-            done = 0;
-            refused = 0;
-            doSteps(scene, 0, steps, 0);
-        }
-
-        private void doSteps(Scene scene, int from, int to, int open) {
+        /** Does the steps from one place to another, for a text that was just parsed. */
+        void doSteps(Scene scene, int from, int to, int open) {
             if (open > MOST_OPEN) {
                 return;
             }
@@ -1268,8 +1263,13 @@ public final class TunedHouses {
                 case PUT: return scene.put(firsts[step], seconds[step]);
                 case TAKE: return scene.takeOut(firsts[step]);
                 case LAY: return scene.lay(firsts[step], seconds[step]);
-                default: return scene.passDayOfWork();
+                default: break;
             }
+            if (scene.cells[Scene.DAY_AT] >= LAST_DAY) {
+                return false;
+            }
+            scene.passDay();
+            return true;
         }
     }
 
@@ -1282,7 +1282,7 @@ public final class TunedHouses {
         static final int LEFT_AT = DAY_AT + 1;
         static final int CELLS = LEFT_AT + 1;
 
-        private final Terrace terrace;
+        final Terrace terrace;
         private final Law law;
         final int[] cells = new int[CELLS];
         private final int[] inputs = new int[INPUTS];
@@ -1383,14 +1383,7 @@ public final class TunedHouses {
             return true;
         }
 
-        boolean passDayOfWork() {
-            if (cells[DAY_AT] >= LAST_DAY) {
-                return false;
-            }
-            passDay();
-            return true;
-        }
-
+        /** Any day passes here; that work's days end with the last is work's own rule. */
         void passDay() {
             measure();
             for (int p = 0; p < terrace.pianos; p++) {
