@@ -1704,7 +1704,9 @@ public final class TunedHouses {
             lookDay = NONE;
             lookWorst = 0;
             begin();
-            for (int day = 0; day <= BOOK_DAYS; day++) {
+            // No day can part them into more than all amounts, so one that does is not outdone.
+            int fewest = (left + STARTS - 1) / STARTS;
+            for (int day = 0; day <= BOOK_DAYS && (lookDay == NONE || lookWorst > fewest); day++) {
                 if (book.amountAfter(day) == NONE) {
                     int worst = mostAlike();
                     if (lookDay == NONE || worst < lookWorst) {
