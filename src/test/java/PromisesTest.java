@@ -450,6 +450,7 @@ public final class PromisesTest {
         fault(x, 'l', "((((((most[1,2]))))))", 3, 6);
         fault(x, 'l', "((((((1(", 1, 7);
         fault(x, 'l', "most[1,most[1,most[1,least[1,least[1,least[1,(2)]]]]]]", 3, 45);
+        fault(x, 'l', "most[most[most[least[least[least[(2),1],1],1],1],1],1]", 3, 33);
         fault(x, 'l', "((((((1001))))))", 2, 6);
         due(x.would(7, 3, 0, 0, 0, 0, 0, 0), 7, "the law stays");
     }
@@ -676,6 +677,9 @@ public final class PromisesTest {
         noSuch(x, () -> x.house(-1, 9), "no such house ahead of others");
         illegal(x, () -> x.house(0, 6), "house(0, 6)");
         illegal(x, () -> x.house(0, -1), "house(0, -1)");
+        TunedHouses little = with("house 5;piano 2 1;");
+        work(little, "put 0 0;day;");
+        due(little.house(0, 4), 2, "even one of it");
         TunedHouses tie = with("house 5;piano 2 5;piano 7 5;house 5;");
         work(tie, "put 0 0;put 1 1;again 10 [day;];");
         due(tie.house(0, 0), 2, "of alike ones the least");
@@ -869,8 +873,14 @@ public final class PromisesTest {
         due(x.from(2, 1), 210, "2 s + 2 = 6");
         law(x, "here / 10 * strong");
         due(x.from(2, 1), 310, "by what is here");
-        book(x, "0 9;1 9;");
         law(x, "strong");
+        book(x, "0 0;1 1;");
+        due(x.from(0, 0), 1, "the very first pair");
+        due(x.from(0, 1), 100, "the very first pair");
+        terrace(x, THREE);
+        due(x.from(0, 0), 900, "a new terrace has no book");
+        law(x, "strong");
+        book(x, "0 9;1 9;");
         due(x.from(0, 0), 0, "none");
         due(x.from(0, 1), -1, "none");
         work(x, "put 0 0;put 1 1;again 9 [day;];");
@@ -895,6 +905,12 @@ public final class PromisesTest {
         book(y, "0 0;");
         due(y.look(0, 0), 4, "on day 4 all nine are unlike");
         due(y.look(0, 1), 1, "on day 4 all nine are unlike");
+        law(y, "day / 59 * strong");
+        due(y.look(0, 0), 60, "only the last day parts them");
+        due(y.look(0, 1), 1, "only the last day parts them");
+        law(y, "0");
+        due(y.look(0, 0), 1, "no day parts them");
+        due(y.look(0, 1), 9, "no day parts them");
         noSuch(y, () -> y.look(1, 0), "look(1, 0)");
         noSuch(y, () -> y.look(1, 2), "look(1, 2)");
         illegal(y, () -> y.look(0, 2), "look(0, 2)");
@@ -1138,6 +1154,7 @@ public final class PromisesTest {
             due(x.span(seed, 5, 12, 5, 2, 1), often, "how many");
         }
         due(x.span(3, 20, 96, 16, 1, 0) <= 3 ? 1 : 0, 1, "twenty");
+        due(x.span(1, 1, 12, 5, 0, 1), Integer.bitCount(x.year(1, 12, 5, 0)), "one");
         illegal(x, () -> x.span(1, 0, 1, 1, 0, 0), "many 0");
         illegal(x, () -> x.span(1, 21, 1, 1, 0, 0), "many 21");
         illegal(x, () -> x.span(1, 1, 0, 1, 0, 0), "days 0");
