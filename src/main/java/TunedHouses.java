@@ -1240,7 +1240,7 @@ public final class TunedHouses {
         }
 
         /** Does the steps from one place to another, for a text that was just parsed. */
-        void doSteps(Scene scene, int from, int to, int open) {
+        private void doSteps(Scene scene, int from, int to, int open) {
             if (open > MOST_OPEN) {
                 return;
             }
