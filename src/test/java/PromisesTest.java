@@ -1,12 +1,7 @@
 import java.util.NoSuchElementException;
 
 /** Promise by promise: ordinary inputs, the edges that the document names, and wrong inputs. */
-public final class PromisesTest {
-    private static final String THREE = "house 3;house 5;house 3;wall 0 1;wall 1 2;piano 7 6;piano 5 4;piano 7 2;"
-            + "wish 0 7;wish 2 7;felt 8;";
-    private static int wrong;
-    private static int promise;
-
+public final class PromisesTest extends Checks {
     interface Call {
         long answer();
     }
@@ -44,20 +39,10 @@ public final class PromisesTest {
         years();
         images();
         statusAndCount();
-        System.out.println(wrong == 0 ? "all promises hold" : wrong + " answers are wrong");
-        if (wrong != 0) {
-            System.exit(1);
-        }
+        finish("PromisesTest");
     }
 
     // ---- helpers ----
-
-    private static void due(long got, long want, String what) {
-        if (got != want) {
-            wrong++;
-            System.out.println("promise " + promise + ": " + what + " answered " + got + ", due is " + want);
-        }
-    }
 
     private static String outcome(Call call) {
         try {
@@ -70,8 +55,7 @@ public final class PromisesTest {
     private static void expect(Class<?> due, Call call, String what) {
         String got = outcome(call);
         if (!got.equals(due.getName())) {
-            wrong++;
-            System.out.println("promise " + promise + ": " + what + " " + got + ", due is " + due.getName());
+            fail(what + " " + got + ", due is " + due.getName());
         }
     }
 
@@ -85,8 +69,7 @@ public final class PromisesTest {
         due(x.status(counter), before + 1, what + ": status");
         due(x.status(1 - counter), other, what + ": the other status");
         if (!state.equals(digest(x))) {
-            wrong++;
-            System.out.println("promise " + promise + ": " + what + " changed something");
+            fail(what + " changed something");
         }
     }
 
@@ -124,60 +107,16 @@ public final class PromisesTest {
         return b.toString();
     }
 
-    private static int word(String s, int at) {
-        int word = 0;
-        for (int i = at; i < at + 4; i++) {
-            word = word << 8 | (i < s.length() ? s.charAt(i) : 0);
-        }
-        return word;
-    }
-
-    private static int put(TunedHouses x, String s) {
-        for (int at = 0; at < s.length(); at += 20) {
-            x.feed(word(s, at), word(s, at + 4), word(s, at + 8), word(s, at + 12), word(s, at + 16));
-        }
-        return s.length();
-    }
-
-    private static int terrace(TunedHouses x, String s) {
-        return x.terrace(put(x, s));
-    }
-
-    private static int law(TunedHouses x, String s) {
-        return x.law(put(x, s));
-    }
-
-    private static int work(TunedHouses x, String s) {
-        return x.work(put(x, s));
-    }
-
-    private static int book(TunedHouses x, String s) {
-        return x.book(put(x, s));
-    }
-
-    private static TunedHouses with(String terrace) {
-        TunedHouses x = new TunedHouses();
-        if (terrace(x, terrace) < 0) {
-            wrong++;
-            System.out.println("a terrace was not read: " + terrace);
-        }
-        return x;
-    }
-
     private static TunedHouses three() {
         TunedHouses x = with(THREE);
         work(x, "put 0 0;put 1 1;put 2 2;lay 1 2;day;");
         return x;
     }
 
-    private static String times(int n, String s) {
-        return s.repeat(n);
-    }
-
     // ---- promises ----
 
     private static void newObject() {
-        promise = 1;
+        promise(1);
         TunedHouses x = new TunedHouses();
         int[] told = {0, 0, 0, 0, 12, 0, 0, 0, 0, 0, 0};
         for (int w = 0; w < told.length; w++) {
@@ -196,7 +135,7 @@ public final class PromisesTest {
     }
 
     private static void feed() {
-        promise = 2;
+        promise(2);
         TunedHouses x = new TunedHouses();
         for (int i = 1; i <= 30; i++) {
             due(x.feed(0x68206831, 1, 2, 3, 4), 20 * i, "feed " + i);
@@ -219,7 +158,7 @@ public final class PromisesTest {
     }
 
     private static void terraceTexts() {
-        promise = 3;
+        promise(3);
         TunedHouses x = with(THREE);
         due(x.told(0), 3, "houses");
         due(x.told(1), 2, "walls");
@@ -249,7 +188,7 @@ public final class PromisesTest {
     }
 
     private static void terraceLimits() {
-        promise = 3;
+        promise(3);
         TunedHouses x = new TunedHouses();
         String eight = times(8, "house 1;");
         due(terrace(x, eight), 0, "8 houses");
@@ -276,7 +215,7 @@ public final class PromisesTest {
     }
 
     private static void terraceFaults() {
-        promise = 3;
+        promise(3);
         TunedHouses x = with(THREE);
         fault(x, 't', "house 10;", 2, 6);
         fault(x, 't', "house 99999999999999999999;", 2, 6);
@@ -320,8 +259,7 @@ public final class PromisesTest {
         due(got, fault - 10, "<" + text + ">");
         due(x.fault(), place, "fault() of <" + text + ">");
         if (!before.equals(digestButFault(x))) {
-            wrong++;
-            System.out.println("promise " + promise + ": <" + text + "> changed something");
+            fail("<" + text + "> changed something");
         }
     }
 
@@ -333,7 +271,7 @@ public final class PromisesTest {
     }
 
     private static void terraceResets() {
-        promise = 3;
+        promise(3);
         TunedHouses x = three();
         law(x, "40");
         book(x, "0 1;");
@@ -354,7 +292,7 @@ public final class PromisesTest {
     }
 
     private static void lawTexts() {
-        promise = 4;
+        promise(4);
         TunedHouses x = with("house 0;piano 0 5;");
         due(law(x, " strong*2-felt "), 1, "law");
         due(x.count(1), 0, "the tape is empty");
@@ -386,7 +324,7 @@ public final class PromisesTest {
     }
 
     private static void lawValues() {
-        promise = 4;
+        promise(4);
         due(value("strong+felt*10"), 21, "strong felt");
         due(value("days+here*9"), 39, "days here");
         due(value("thing*7+next"), 35, "thing next");
@@ -420,7 +358,7 @@ public final class PromisesTest {
     }
 
     private static void lawFaults() {
-        promise = 4;
+        promise(4);
         TunedHouses x = with(THREE);
         law(x, "strong");
         fault(x, 'l', "", 1, 0);
@@ -456,7 +394,7 @@ public final class PromisesTest {
     }
 
     private static void works() {
-        promise = 5;
+        promise(5);
         TunedHouses x = with(THREE);
         due(work(x, "put 0 0;put 1 1;put 2 1;put 2 2;put 0 0;lay 1 2;lay 0 9;lay 1 2;day;"), 5, "done");
         due(x.told(9), 4, "refused");
@@ -491,7 +429,7 @@ public final class PromisesTest {
     }
 
     private static void workLimits() {
-        promise = 5;
+        promise(5);
         TunedHouses x = with("house 1;house 1;piano 3 1;");
         due(work(x, "again 20 [again 20 [put 0 0;];];"), 1, "200 begun");
         due(x.told(9), 188, "refused");
@@ -532,7 +470,7 @@ public final class PromisesTest {
     }
 
     private static void workFaults() {
-        promise = 5;
+        promise(5);
         TunedHouses x = three();
         fault(x, 'w', "put 3 0;", 2, 4);
         fault(x, 'w', "put 0 3;", 2, 6);
@@ -564,7 +502,7 @@ public final class PromisesTest {
     }
 
     private static void books() {
-        promise = 6;
+        promise(6);
         TunedHouses x = with(THREE);
         due(book(x, "0 10;2 16;"), 2, "book");
         due(x.told(8), 2, "lines");
@@ -596,7 +534,7 @@ public final class PromisesTest {
     }
 
     private static void faults() {
-        promise = 7;
+        promise(7);
         TunedHouses x = new TunedHouses();
         due(x.fault(), -1, "ahead of any text");
         law(x, "1 +");
@@ -614,7 +552,7 @@ public final class PromisesTest {
     }
 
     private static void undo() {
-        promise = 8;
+        promise(8);
         TunedHouses x = with(THREE);
         due(x.undo(), -1, "none");
         String first = digestButFault(x);
@@ -641,7 +579,7 @@ public final class PromisesTest {
     }
 
     private static void told() {
-        promise = 9;
+        promise(9);
         TunedHouses x = three();
         int[] due = {3, 2, 3, 1, 6, 7, 0, 7, 0, 0, 154};
         for (int w = 0; w < due.length; w++) {
@@ -665,7 +603,7 @@ public final class PromisesTest {
     }
 
     private static void houses() {
-        promise = 10;
+        promise(10);
         TunedHouses x = three();
         int[][] due = {{3, 0, 2, 7, 2, 3}, {5, 1, 5, -1, 1, 5}, {3, 2, 2, 7, 1, 3}};
         for (int h = 0; h < 3; h++) {
@@ -686,7 +624,7 @@ public final class PromisesTest {
         due(tie.house(1, 0), 5, "of alike ones the least");
         work(tie, "take 0;");
         due(tie.house(0, 1), -1, "no piano");
-        promise = 11;
+        promise(11);
         due(x.there(0, 7), 4, "there(0, 7)");
         due(x.there(0, 3), 50, "there(0, 3)");
         due(x.there(0, 0), 0, "there(0, 0)");
@@ -694,7 +632,7 @@ public final class PromisesTest {
         noSuch(x, () -> x.there(3, 10), "there(3, 10)");
         illegal(x, () -> x.there(0, 10), "there(0, 10)");
         illegal(x, () -> x.there(0, -1), "there(0, -1)");
-        promise = 12;
+        promise(12);
         TunedHouses walled = with("house 1;house 1;house 1;wall 2 0;wall 0 1;");
         due(walled.wall(0, 0), 2, "A");
         due(walled.wall(0, 1), 0, "B");
@@ -707,7 +645,7 @@ public final class PromisesTest {
     }
 
     private static void pianos() {
-        promise = 13;
+        promise(13);
         TunedHouses x = three();
         int[][] due = {{7, 6, 0, 0, 1, 6, 4, 2}, {5, 4, 1, 2, 1, 2, 0, 5}, {7, 2, 2, 0, 1, 2, 0, 2}};
         for (int p = 0; p < 3; p++) {
@@ -739,7 +677,7 @@ public final class PromisesTest {
     }
 
     private static void would() {
-        promise = 14;
+        promise(14);
         TunedHouses x = new TunedHouses();
         due(x.would(6, 2, 0, 0, 0, 0, 0, 0), 4, "strong - felt");
         due(x.would(1, 9, 0, 0, 0, 0, 0, 0), 0, "0 at least");
@@ -764,7 +702,7 @@ public final class PromisesTest {
     }
 
     private static void aheadAndWhen() {
-        promise = 15;
+        promise(15);
         TunedHouses x = three();
         String before = digest(x);
         due(x.ahead(0, 0, 0), 3, "ahead(0, 0, 0)");
@@ -779,7 +717,7 @@ public final class PromisesTest {
         illegal(x, () -> x.ahead(0, 100, 0), "ahead(0, 100, 0)");
         illegal(x, () -> x.ahead(0, 0, 2), "ahead(0, 0, 2)");
         illegal(x, () -> x.ahead(0, 0, -1), "ahead(0, 0, -1)");
-        promise = 16;
+        promise(16);
         due(x.when(0, 3), 0, "now");
         due(x.when(0, 7), 12, "in 12 days");
         due(x.when(1, 7), -1, "never");
@@ -803,7 +741,7 @@ public final class PromisesTest {
     }
 
     private static void muffle() {
-        promise = 17;
+        promise(17);
         TunedHouses x = three();
         due(x.muffle(0), 6, "muffle(0)");
         due(x.muffle(1), 4, "whatever is in it");
@@ -823,10 +761,10 @@ public final class PromisesTest {
     }
 
     private static void places() {
-        promise = 18;
+        promise(18);
         TunedHouses x = with("house 1;house 1;house 1;house 1;wall 0 1;wall 1 2;piano 5 1;piano 6 1;wish 1 5;wish 2 6;wish 3 6;");
         due(x.places(), 2, "both wishes");
-        promise = 19;
+        promise(19);
         due(x.placed(0), 1, "placed(0)");
         due(x.placed(1), 3, "the other would fight");
         work(x, "put 0 0;");
@@ -834,7 +772,7 @@ public final class PromisesTest {
         due(x.piano(0, 2), 0, "nothing stays changed");
         noSuch(x, () -> x.placed(2), "placed(2)");
         noSuch(x, () -> x.placed(-1), "placed(-1)");
-        promise = 18;
+        promise(18);
         TunedHouses more = with("house 1;piano 5 1;piano 5 1;");
         due(more.places(), -1, "more pianos than houses");
         due(more.placed(0), -1, "placed by none");
@@ -853,7 +791,7 @@ public final class PromisesTest {
     }
 
     private static void fromAndLook() {
-        promise = 20;
+        promise(20);
         TunedHouses x = with(THREE);
         due(x.from(0, 0), 900, "no book");
         due(x.from(0, 1), 100, "the first");
@@ -889,7 +827,7 @@ public final class PromisesTest {
         noSuch(x, () -> x.from(-1, 2), "from(-1, 2)");
         illegal(x, () -> x.from(0, 2), "from(0, 2)");
         illegal(x, () -> x.from(0, -1), "from(0, -1)");
-        promise = 21;
+        promise(21);
         due(x.look(0, 0), 2, "in no line");
         due(x.look(0, 1), 0, "none left");
         TunedHouses y = with("house 1;");
@@ -918,7 +856,7 @@ public final class PromisesTest {
     }
 
     private static void waysAndAlone() {
-        promise = 22;
+        promise(22);
         TunedHouses x = with(times(8, "house 1;") + "wall 0 1;wall 1 2;wall 2 3;wall 3 4;wall 4 5;wall 5 6;wall 0 3;");
         due(x.way(0, 0), 0, "itself");
         due(x.way(0, 1), 1, "a wall");
@@ -933,7 +871,7 @@ public final class PromisesTest {
         noSuch(x, () -> x.way(8, 0), "way(8, 0)");
         noSuch(x, () -> x.way(0, 8), "way(0, 8)");
         noSuch(x, () -> x.way(0, -1), "way(0, -1)");
-        promise = 23;
+        promise(23);
         due(row.alone(), 0b01010101, "the least bits");
         due(x.alone(), 0b11010101, "every other one, and the one without walls");
         due(with(times(3, "house 1;")).alone(), 7, "no walls");
@@ -942,7 +880,7 @@ public final class PromisesTest {
     }
 
     private static void price() {
-        promise = 24;
+        promise(24);
         TunedHouses x = new TunedHouses();
         long[][] due = {{1, 3, 2, 1}, {1, 2, 3, 2}, {2, 3, 7, 3}, {3, 2, 15, 8}, {6, 1, 1, 1}, {2, 9, 55, 9},
             {6, 9, 50452, 6561}, {4, 3, 73, 27}, {5, 6, 277, 54}, {6, 2, 127, 64}, {1, 9, 5, 1}, {2, 2, 7, 4}};
@@ -959,7 +897,7 @@ public final class PromisesTest {
     }
 
     private static void tuner() {
-        promise = 25;
+        promise(25);
         TunedHouses x = new TunedHouses();
         int[][] due = {{3, 5, 1, 0, 6}, {0, 0, 3, 0, 0}, {9, 0, 2, 0, 18}, {0, 5, 2, 0, 0}, {50, 51, 1, 0, 100},
             {99, 99, 1, 0, 198}, {1, 0, 2, 0, 2}};
@@ -977,7 +915,7 @@ public final class PromisesTest {
     }
 
     private static void share() {
-        promise = 26;
+        promise(26);
         TunedHouses x = with(THREE);
         due(x.share(0, 7, 9), 3, "3 and 3 and 2");
         due(x.share(2, 7, 9), 2, "no more than that each");
@@ -1001,14 +939,14 @@ public final class PromisesTest {
     }
 
     private static void thoseToOldest() {
-        promise = 27;
+        promise(27);
         TunedHouses x = three();
         due(x.those(3), 5, "those(3)");
         due(x.those(5), 2, "those(5)");
         due(x.those(7), 0, "those(7)");
         illegal(x, () -> x.those(10), "those(10)");
         illegal(x, () -> x.those(-1), "those(-1)");
-        promise = 28;
+        promise(28);
         due(x.loudest(0), 0, "loudest(0)");
         due(x.loudest(1), 6, "loudest(1)");
         work(x, "take 0;");
@@ -1022,7 +960,7 @@ public final class PromisesTest {
         due(x.loudest(1), -1, "none stands");
         illegal(x, () -> x.loudest(2), "loudest(2)");
         illegal(x, () -> x.loudest(-1), "loudest(-1)");
-        promise = 29;
+        promise(29);
         TunedHouses y = with("house 3;house 5;house 3;house 1;wall 0 1;wall 1 2;piano 7 6;piano 5 4;piano 7 2;");
         due(y.quiet(0), 15, "none stands");
         work(y, "put 0 0;");
@@ -1035,12 +973,12 @@ public final class PromisesTest {
         due(y.piano(0, 2), 0, "nothing stays changed");
         noSuch(y, () -> y.quiet(3), "quiet(3)");
         noSuch(y, () -> y.quiet(-1), "quiet(-1)");
-        promise = 30;
+        promise(30);
         TunedHouses z = three();
         due(z.changed(), 0, "none yet");
         work(z, "again 12 [day;];");
         due(z.changed(), 1, "the first");
-        promise = 31;
+        promise(31);
         due(z.oldest(0), 0, "of alike ones the first");
         due(z.oldest(1), 13, "its days");
         work(z, "take 0;put 0 0;");
@@ -1057,13 +995,13 @@ public final class PromisesTest {
     }
 
     private static void emptyToTunes() {
-        promise = 32;
+        promise(32);
         TunedHouses x = with(THREE);
         due(x.empty(), 7, "all");
         work(x, "put 0 1;");
         due(x.empty(), 5, "all but one");
         due(with(times(8, "house 1;")).empty(), 255, "eight");
-        promise = 33;
+        promise(33);
         TunedHouses y = three();
         due(y.margin(0), 46, "50 and 4");
         due(y.margin(1), 50, "50 and 0");
@@ -1075,7 +1013,7 @@ public final class PromisesTest {
         due(tie.margin(0), 0, "as much");
         noSuch(y, () -> y.margin(3), "margin(3)");
         noSuch(y, () -> y.margin(-1), "margin(-1)");
-        promise = 34;
+        promise(34);
         TunedHouses z = three();
         due(z.tunes(0, 0), 4, "its own");
         due(z.tunes(0, 1), -1, "another one");
@@ -1102,7 +1040,7 @@ public final class PromisesTest {
     }
 
     private static void years() {
-        promise = 35;
+        promise(35);
         TunedHouses x = with("house 0;piano 4 9;wish 0 4;");
         work(x, "put 0 0;");
         due(x.year(3, 6, 0, 0), 1, "54 of it");
@@ -1133,7 +1071,7 @@ public final class PromisesTest {
         illegal(y, () -> y.year(1, 1, 17, 0), "year(1, 1, 17, 0)");
         due(with("house 1;").year(7, 96, 16, 1), 0, "no pianos");
         due(with("piano 1 1;").year(7, 96, 16, 2), 0, "no houses");
-        promise = 36;
+        promise(36);
         spans();
     }
 
@@ -1168,7 +1106,7 @@ public final class PromisesTest {
     }
 
     private static void images() {
-        promise = 37;
+        promise(37);
         TunedHouses x = with(THREE);
         work(x, "put 0 0;day;");
         String first = digest(x);
@@ -1180,7 +1118,7 @@ public final class PromisesTest {
         due(x.image(), 3, "image()");
         due(x.image(), -1, "there are 3");
         due(x.count(0), 3, "images");
-        promise = 38;
+        promise(38);
         work(x, "day;day;day;lay 0 4;lay 0 4;");
         due(x.told(9), 1, "refused");
         law(x, "strong * 3");
@@ -1226,7 +1164,7 @@ public final class PromisesTest {
     }
 
     private static void statusAndCount() {
-        promise = 39;
+        promise(39);
         TunedHouses x = with(THREE);
         due(x.status(0), 0, "status(0)");
         due(x.status(1), 0, "status(1)");
@@ -1243,7 +1181,7 @@ public final class PromisesTest {
         due(x.status(0), 2, "no image keeps it");
         terrace(x, "house 1;");
         due(x.status(0), 2, "no terrace ends it");
-        promise = 40;
+        promise(40);
         due(x.count(0), 0, "images");
         due(x.count(1), 0, "bytes");
         due(x.count(2), 0, "works");
