@@ -392,7 +392,11 @@ public final class DayEdgesTest extends Checks {
         work(full, "put 0 7;put 1 6;put 2 5;put 3 4;put 4 3;put 5 2;");
         due(full.told(5), 63, "all six");
         due(full.empty(), 3, "two are empty");
+        says(9, "7 PIANOS that FIGHT (bits)");
         due(full.told(7), 0, "alike ones fight none");
+        TunedHouses ring = with(times(6, "house 1;") + "wall 0 1;wall 1 2;wall 2 3;wall 3 4;wall 4 5;piano 1 1;piano 2 1;piano 1 1;"
+                + "piano 2 1;piano 1 1;piano 2 1;", "put 0 0;put 1 1;put 2 2;put 3 3;put 4 4;put 5 5;");
+        due(ring.told(7), 63, "all six");
         TunedHouses wish = with("house 0;house 0;house 3;wish 1 1;wish 2 3;");
         due(wish.told(6), 4, "one without a wish is not, one of another thing is not");
         due(with("house 0;").told(6), 0, "one without a wish is not");
@@ -427,9 +431,10 @@ public final class DayEdgesTest extends Checks {
     }
 
     private static void house() {
-        says(10, "1 the PIANO in it (NONE), 2 HOUSES through a WALL (bits), 3 what they wish for (NONE)");
+        says(10, "0 the THING it IS, 1 the PIANO in it (NONE), 2 HOUSES through a WALL (bits), 3 what they wish for (NONE)");
         TunedHouses x = with(EIGHT + "wall 7 0;wall 1 7;wall 7 2;wall 3 7;wall 7 4;wall 5 7;wall 7 6;" + times(6, "piano 2 1;")
                 + "wish 7 0;", "put 5 7;");
+        due(x.house(7, 0), 1, "as told");
         due(x.house(7, 1), 5, "the last piano in the last house");
         due(x.house(6, 1), NONE, "none");
         work(x, "take 5;put 0 7;");

@@ -253,6 +253,13 @@ public final class QuestionEdgesTest extends Checks {
         from(x, "60 59;", 0, 0, NONE);
         from(x, "1 14;0 10;5 30;3 22;4 26;2 18;", 0, 1, 410);
         from(x, "1 14;0 10;5 30;3 22;4 26;2 17;", 0, 0, NONE);
+        says(0, "how many, the first (by STRONG, then START).");
+        // Strong 5 from 35, strong 4 from 36 .. strong 1 from 39: the least strong, though its start is not the least.
+        from(x, "1 40;", 0, 9, 139);
+        law(x, "strong/5*here");
+        from(x, "1 40;", 0, 9, 140);
+        law(x, "(10-strong)/5*here");
+        from(x, "1 40;", 0, 9, 120);
         says(20, "FROM of a HOUSE: 0 how many pairs, 1 the first (100 times STRONG, and START; NONE).");
         law(x, "strong/9");
         from(x, "0 98;1 99;", 0, 1, 998);
@@ -371,7 +378,8 @@ public final class QuestionEdgesTest extends Checks {
         price(x, 6, 1, 1, 1);
         price(x, 1, 9, 5, 1);
         price(x, 6, 9, 50452, 6561);
-        says(0, "he takes it, or waits for the next day (the last bid he takes): what he has on the mean, if he does best.");
+        says(0, "PRICE by n, k: on each of n days one is bid 1 to k coins, alike likely; he takes it, or waits for the next day (the last bid "
+                + "he takes): what he has on the mean, if he does best.");
         price(x, 1, 2, 3, 2);
         price(x, 1, 4, 5, 2);
         price(x, 2, 2, 7, 4);
@@ -408,6 +416,17 @@ public final class QuestionEdgesTest extends Checks {
                 due(x.tuner(d[0], d[1], w), d[2 + w], "tuner(" + d[0] + ", " + d[1] + ", " + w + ")");
             }
         }
+        says(0, "he tunes and it gives way: both have v; it gives way alone: it has w, he 0; he tunes alone: he has 1 less than 0, it 0; "
+                + "neither: both have 0;");
+        // Both is ever a rest; he not, it giving way, if v is 0; neither, if w is 0; he alone never.
+        for (int v = 0; v <= 99; v++) {
+            TunedHouses y = new TunedHouses();
+            for (int w : new int[] {0, 1, 2, 50, 98, 99}) {
+                due(y.tuner(v, w, 0), 1 + (v == 0 ? 1 : 0) + (w == 0 ? 1 : 0), "tuner(" + v + ", " + w + ", 0)");
+                due(y.tuner(v, w, 1), 0, "tuner(" + v + ", " + w + ", 1)");
+                due(y.tuner(v, w, 2), 2 * v, "tuner(" + v + ", " + w + ", 2)");
+            }
+        }
         says(0, "RESTS: neither would have more by the other thing.");
         due(x.tuner(0, 0, 0), 3, "as much is not more: both, he not, neither");
         due(x.tuner(0, 5, 0), 2, "it would have more by giving way, where neither does");
@@ -415,7 +434,8 @@ public final class QuestionEdgesTest extends Checks {
     }
 
     private static void share() {
-        says(0, "no more than that each, no more than a bound, the greatest by which no more than n are given (all, if they are no more).");
+        says(0, "SHARES of n among told PIANOS (bits) by STRONG: levelled: no more than that each, no more than a bound, the greatest by "
+                + "which no more than n are given (all, if they are no more).");
         TunedHouses x = with("piano 1 6;piano 1 4;piano 1 2;");
         int[][] due = {{0, 0, 0, 0}, {1, 0, 0, 0}, {2, 0, 0, 0}, {3, 1, 1, 1}, {5, 1, 1, 1}, {6, 2, 2, 2}, {7, 2, 2, 2}, {8, 3, 3, 2},
             {9, 3, 3, 2}, {10, 4, 4, 2}, {11, 5, 4, 2}, {12, 6, 4, 2}, {13, 6, 4, 2}, {99, 6, 4, 2}};
@@ -495,6 +515,12 @@ public final class QuestionEdgesTest extends Checks {
         due(x.year(3, 96, 16, 1), 1, "Q 16: put on the first day, then never again");
         due(x.year(3, 1, 16, 2), 59, "put, then day");
         due(x.year(3, 6, 16, 0), 1, "put, then day");
+        says(35, "0 HOUSES (bits) that are another THING than was told then, 1 how often one was put, 2 all there is of all THINGS then, 3 "
+                + "HOUSES that are what they wish for then (bits).");
+        TunedHouses eight = with(times(7, "house 5;") + "house 4;piano 4 9;piano 2 9;wish 7 4;wish 0 2;wish 1 5;", "put 0 7;put 1 0;");
+        due(eight.year(3, 5, 0, 0) * 1000 + eight.year(3, 5, 0, 3), 130, "45 of 2 in house 0");
+        due(eight.year(3, 6, 0, 0) * 1000 + eight.year(3, 6, 0, 3), 1131, "54 of 2 in house 0");
+        due(eight.year(3, 96, 0, 2), 400 + 49 + 99, "both houses are full");
         says(0, "(as by put, if it can; without PIANOS or HOUSES there is no such DRAW); then day.");
         due(with("house 1;house 1;").year(9, 96, 16, 1), 0, "without pianos");
         due(with("house 1;house 1;").year(9, 96, 16, 2), 100, "without pianos");
@@ -506,6 +532,7 @@ public final class QuestionEdgesTest extends Checks {
 
     private static void draws() {
         says(0, "DRAW: the SEED (32 bits) becomes itself times 1,103,515,245, and 12,345 (it wraps); its bits 16 to 30, what is left of them.");
+        says(0, "DRAW by 16 below Q: the PIANO that is DRAW by how many there are is put into the HOUSE that is DRAW by how many there are");
         // Seed 1 gives 16838, 5758, 10113, 17515, 31051, 5627: by 16 that is 6, then piano 5758, house 10113.
         TunedHouses x = with("house 0;house 1;house 2;piano 4 9;piano 5 8;piano 6 7;piano 7 5;piano 8 3;");
         due(x.year(1, 1, 6, 1), 0, "6 is not below 6");
@@ -518,6 +545,7 @@ public final class QuestionEdgesTest extends Checks {
         due(x.year(1, 2, 12, 1), 1, "11 is below 12");
         due(x.year(1, 2, 11, 1), 0, "11 is not below 11");
         due(x.year(1, 2, 12, 2), 150 + 18 + 8, "piano 1");
+        says(0, "its bits 16 to 30, what is left of them.");
         // Seed 0 gives 0 first: below every Q but 0.
         due(x.year(0, 1, 0, 1), 0, "0 is not below 0");
         // Then 21468 by 5 is 3, and 9988 by 3 is 1; both have bit 31 set, which is left out.

@@ -19,6 +19,7 @@ public final class RandomRunsTest {
     private final StringBuilder story = new StringBuilder();
     private int houses;
     private int pianos;
+    private int calls;
 
     private RandomRunsTest(long seed) {
         random = new Random(seed);
@@ -46,12 +47,11 @@ public final class RandomRunsTest {
     }
 
     private boolean run() {
-        int calls = 0;
         if (random.nextInt(10) > 0 && !text('t', terraceText())) {
             return false;
         }
-        while (calls < 150) {
-            calls++;
+        // A run ends well ahead of the 512th call: one round makes at most some eighty.
+        while (calls < 420) {
             int dice = random.nextInt(100);
             boolean fine;
             if (dice < 25) {
@@ -79,6 +79,7 @@ public final class RandomRunsTest {
     }
 
     private boolean same(String name, Call a, Call b) {
+        calls++;
         String x = outcome(a);
         String y = outcome(b);
         story.append("  ").append(name).append(" = ").append(x).append('\n');
@@ -138,6 +139,7 @@ public final class RandomRunsTest {
         if (!open(kind, n) || !same("fault()", real::fault, model::fault)) {
             return false;
         }
+        calls += 2;
         houses = real.told(0);
         pianos = real.told(2);
         model.told(0);
