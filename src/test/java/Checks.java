@@ -47,6 +47,11 @@ abstract class Checks {
         place = "promise " + promise;
     }
 
+    /** Names what else the checks behind it are about. */
+    static void about(String what) {
+        place = what;
+    }
+
     /** Names the sentence that the checks behind it hold the class to. */
     static void says(int promise, String sentence) {
         place = "promise " + promise + ", \"" + sentence + "\"";

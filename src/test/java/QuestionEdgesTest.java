@@ -319,6 +319,8 @@ public final class QuestionEdgesTest extends Checks {
         look(x, "strong/5", "0 0;", 1, 5);
         // Day 1 leaves 8 or 1; day 2 leaves 4, 4 or 1.
         look(x, "strong/9+day*(strong/5-strong/9)", "0 0;", 2, 4);
+        // two at the worst from day 1 on is nearly the fewest there can be, but not yet it
+        look(x, "strong/2+strong*(day/3)", "0 0;", 4, 1);
         says(21, "LOOK of a HOUSE: 0 the day, 1 how many pairs are left at the worst.");
         look(x, "strong", "0 50;1 50;", 2, 0);
         look(x, "strong", "0 50;1 59;", 2, 1);

@@ -9,6 +9,7 @@ public final class RandomRunsTest {
         "999*999*999*999 / 100000 - day", "day - 150", "0", "99", "strong + house * thing - next",
         "most[least[strong*3,day],(here-50)/7]-felt*2", "(0-strong-day*7)%5+4", "((((((strong))))))",
         "(0 - 999*999*999*999*999) / (0 - 1)", "1 + 2 * 3 - 4 / 2 % 3", "20 - here / 5", "days * days - felt"};
+    private static final String[] WORDS = {"strong", "felt", "days", "here", "thing", "next", "house", "day"};
     private static final String[] SCRAPS = {"house", "wall", "piano", "wish", "felt", "put", "take", "lay", "day",
         "again", "least", "most", "[", "]", "(", ")", ";", ",", "+", "-", "*", "/", "%", " ", "  ", "0", "1", "9",
         "10", "007", "999", "1000", "99999999999", "strong", "days", "x", "A", "\u0000", "\u00ff", "\t"};
@@ -108,7 +109,7 @@ public final class RandomRunsTest {
         String s;
         switch (kind) {
             case 't': s = terraceText(); break;
-            case 'l': s = LAWS[random.nextInt(LAWS.length)]; break;
+            case 'l': s = lawText(); break;
             case 'w': s = workText(0); break;
             default: s = bookText(); break;
         }
@@ -227,6 +228,48 @@ public final class RandomRunsTest {
             b.append(';');
         }
         return b.toString();
+    }
+
+    private String lawText() {
+        if (random.nextBoolean()) {
+            return LAWS[random.nextInt(LAWS.length)];
+        }
+        String law = sum(0);
+        for (int i = 0; i < 20 && law.length() > 150; i++) {
+            law = sum(0);
+        }
+        return law;
+    }
+
+    private String sum(int open) {
+        StringBuilder b = new StringBuilder(product(open));
+        for (int i = random.nextInt(3); i > 0; i--) {
+            b.append("+-".charAt(random.nextInt(2))).append(product(open));
+        }
+        return b.toString();
+    }
+
+    private String product(int open) {
+        StringBuilder b = new StringBuilder(unit(open));
+        while (random.nextInt(3) == 0) {
+            b.append("*/%".charAt(random.nextInt(3))).append(unit(open));
+        }
+        return b.toString();
+    }
+
+    private String unit(int open) {
+        int dice = random.nextInt(10);
+        // One open sign more than there may be, now and then.
+        if (dice < 5 || open > 6) {
+            return WORDS[random.nextInt(WORDS.length)];
+        }
+        if (dice < 7) {
+            return Integer.toString(random.nextInt(random.nextBoolean() ? 10 : 1001));
+        }
+        if (dice < 9) {
+            return "(" + sum(open + 1) + ")";
+        }
+        return (random.nextBoolean() ? "least[" : "most [") + sum(open + 1) + "," + sum(open + 1) + "]";
     }
 
     private String bookText() {
